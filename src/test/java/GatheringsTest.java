@@ -197,6 +197,7 @@ public final class GatheringsTest {
         Check.is("hold(0, {1, 2}), of less than nothing", x.hold(0, 6), 3 - 18);
         Check.is("coins of 2", x.ofPerson(2, 3), 41);
         Check.is("coins of 0", x.ofPerson(0, 3), 51);
+        giftsByWholeFives();
         Iemotohall less = Halls.flat(2);
         for (int r = 9; r >= 6; r--) {
             less.utensil(r >= 8 ? 0 : 1, 9 - r, -1, r, r == 8 ? 6 : r);
@@ -211,6 +212,18 @@ public final class GatheringsTest {
         Check.is("hold(0, {1})", less.hold(0, 2), 9 + 6 + 7 + 6);
         Check.is("coins of 1, that had less than 5", less.ofPerson(1, 3), 0);
         Check.is("coins of 0", less.ofPerson(0, 3), 63 - 60 - 3 + 1);
+    }
+
+    private static void giftsByWholeFives() {
+        int[] ranks = {4, 5, 9};
+        int[] gifts = {0, 1, 1};
+        for (int i = 0; i < ranks.length; i++) {
+            Iemotohall x = Halls.flat(2);
+            x.utensil(1, 0, -1, 0, ranks[i]);
+            Check.is("hold(1, {0})", x.hold(1, 1), ranks[i]);
+            Check.is("coins of 0 for a worth of " + ranks[i], x.ofPerson(0, 3), 60 - gifts[i]);
+            Check.is("seen by 0", x.ofUtensil(0, 7), 1);
+        }
     }
 
     private static void holdRefused() {
@@ -234,6 +247,9 @@ public final class GatheringsTest {
         Check.is("coins of 0", x.ofPerson(0, 3), 8);
         Check.state(x, "hold(0, {1, 2, 3}) for 8 coins", () -> x.hold(0, 0b1110));
         Check.is("hold(0, {1, 2}) for 8 coins", x.hold(0, 0b110), 9);
+        x.die(0);
+        Check.state(x, "hold(1, {0}), dead", () -> x.hold(1, 1));
+        Check.state(x, "plan(1, {0}, 0), dead", () -> x.plan(1, 1, 0));
     }
 
     private static void seenIsForgotten() {
@@ -395,6 +411,8 @@ public final class GatheringsTest {
         x.utensil(0, 0, -1, 0, 1);
         Check.index(x, "ofUtensil(1, 0)", () -> x.ofUtensil(1, 0));
         Check.index(x, "ofUtensil(-1, 8)", () -> x.ofUtensil(-1, 8));
+        Check.index(x, "ofUtensil(12, 0)", () -> x.ofUtensil(12, 0));
+        Check.index(x, "ofUtensil(the least, 0)", () -> x.ofUtensil(Integer.MIN_VALUE, 0));
         Check.argument(x, "ofUtensil(0, 8)", () -> x.ofUtensil(0, 8));
         Check.argument(x, "ofUtensil(0, -1)", () -> x.ofUtensil(0, -1));
     }

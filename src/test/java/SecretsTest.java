@@ -74,6 +74,15 @@ public final class SecretsTest {
         gap.read(1, 0);
         Check.is("read(1, 2) with a key not read between", gap.read(1, 2), false);
         Check.is("what 1 understands", gap.ofPerson(1, 10), 1);
+        Iemotohall deep = Halls.flat(2);
+        for (int s = 0; s < 8; s++) {
+            deep.secret(0, 0, s - 1);
+        }
+        for (int s = 7; s > 0; s--) {
+            Check.is("read(1, " + s + ") without the first key", deep.read(1, s), false);
+        }
+        Check.is("read(1, 0)", deep.read(1, 0), true);
+        Check.is("read(1, 7) down all the keys", deep.read(1, 7), true);
     }
 
     private static void readRefused() {
@@ -239,6 +248,8 @@ public final class SecretsTest {
         x.secret(0, 0, -1);
         Check.index(x, "ofSecret(1, 0)", () -> x.ofSecret(1, 0));
         Check.index(x, "ofSecret(-1, 7)", () -> x.ofSecret(-1, 7));
+        Check.index(x, "ofSecret(8, 0)", () -> x.ofSecret(8, 0));
+        Check.index(x, "ofSecret(the greatest, 0)", () -> x.ofSecret(Integer.MAX_VALUE, 0));
         Check.argument(x, "ofSecret(0, 7)", () -> x.ofSecret(0, 7));
         Check.argument(x, "ofSecret(0, -1)", () -> x.ofSecret(0, -1));
     }

@@ -73,6 +73,9 @@ public final class StepsTest {
         Check.is("fees lost", y.many(12), 2);
         y.give(3);
         Check.is("fees lost, nothing given", y.many(12), 2);
+        y.person(2, -1);
+        Check.is("give(5) with dead ones above", y.give(5), 1);
+        Check.is("fees lost, two times", y.many(12), 4);
     }
 
     private static void giveNeedsTheTeacher() {
@@ -110,6 +113,18 @@ public final class StepsTest {
         Check.is("give(3), no coins alone", x.give(3), -4);
         x.pass(90);
         Check.is("give(3) in a line that stands again", x.give(3), 7);
+        Iemotohall high = Halls.chain(4);
+        Halls.raise(high, 1, 9);
+        Halls.raise(high, 2, 9);
+        Halls.raise(high, 3, 7);
+        high.die(1);
+        Check.is("give(3) the step 8 in a broken line", high.give(3), -3);
+        high.adopt(2, 0, false);
+        Halls.raise(high, 3, 8);
+        high.person(0, -1);
+        high.adopt(2, 4, false);
+        high.die(4);
+        Check.is("give(3) the step 9 in a broken line", high.give(3), -3);
     }
 
     private static void giveNeedsTheFee() {
