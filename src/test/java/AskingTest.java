@@ -12,6 +12,7 @@ public final class AskingTest {
         meanStep();
         digest();
         digestIsOfAll();
+        fullHall();
         Check.end("AskingTest");
     }
 
@@ -193,6 +194,40 @@ public final class AskingTest {
             1, -1, 0, 0, 1, 1, 1,
             1, 0, 2, 3, 0, 0, 1, 2};
         Check.is("digest of all", x.digest(), digestOf(all));
+    }
+
+    /** Each row is full: a step beyond its end would show. */
+    private static void fullHall() {
+        Iemotohall x = Halls.flat(12);
+        for (int p = 1; p <= 3; p++) {
+            Halls.raise(x, p, 8);
+        }
+        for (int i = 0; i < 12; i++) {
+            x.utensil(i, i % 4, -1, i % 10, 1 + i % 9);
+        }
+        for (int i = 0; i < 8; i++) {
+            x.secret(11 - i, 0, i - 1);
+        }
+        x.quarrel(11, 10, true);
+        Check.is("plan(11, {7, 8, 9, 10}, -1)", x.plan(11, 0b11110000000, -1), 3 - 6);
+        Check.is("plan(11, {7, 8, 9, 10}, 3)", x.plan(11, 0b11110000000, 3), 11);
+        Check.is("hold(10, {11})", x.hold(10, 1 << 11), 2 - 6);
+        Check.is("seen by 11", x.ofUtensil(10, 7), 1 << 11);
+        for (int p = 1; p <= 3; p++) {
+            Check.is("part(" + p + ")", x.part(p), p);
+        }
+        Check.is("pupils of 0", x.ofPerson(0, 8), 8);
+        Check.isDouble("mean of 9 and eight of 0", x.meanStep(0), 1.0);
+        Check.is("living ones of 0", x.ofHouse(0, 2), 9);
+        Check.is("unbroken ones of 0", x.ofHouse(0, 3), 0b111111110001);
+        Check.is("living readers of 7", x.ofSecret(7, 4), 1);
+        Check.is("those that may read 0 yet", x.ofSecret(0, 6), 11);
+        Check.is("pass(1)", x.pass(1) > 0, true);
+        Check.is("wouldLose(11)", x.wouldLose(11), 1);
+        Check.is("wouldLose(4)", x.wouldLose(4), 128);
+        Check.is("die(11)", x.die(11), 0);
+        Check.is("those that are lost", x.many(5), 1);
+        Check.is("digest is the same twice", x.digest() == x.digest(), true);
     }
 
     private static long digestOf(int[] all) {

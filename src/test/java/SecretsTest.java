@@ -81,6 +81,7 @@ public final class SecretsTest {
         for (int s = 7; s > 0; s--) {
             Check.is("read(1, " + s + ") without the first key", deep.read(1, s), false);
         }
+        Check.is("read(1, 7) without the first key alone", deep.read(1, 7), false);
         Check.is("read(1, 0)", deep.read(1, 0), true);
         Check.is("read(1, 7) down all the keys", deep.read(1, 7), true);
     }
