@@ -1,6 +1,9 @@
+import java.util.function.IntConsumer;
+
 /** What the tests share: they count and print each answer that is not the one that is due. */
 final class Check {
     private static int wrong = 0;
+    private static String sentence = "";
 
     private Check() {
     }
@@ -8,6 +11,11 @@ final class Check {
     /** A call that may throw. */
     interface Call {
         void make();
+    }
+
+    /** The sentence that is tested from now on; it stands ahead of what is told. */
+    static void about(String text) {
+        sentence = text;
     }
 
     static void is(String what, long got, long due) {
@@ -40,9 +48,27 @@ final class Check {
         refused(x, what, call, IllegalStateException.class);
     }
 
+    /** Each number just outside of least to most, and far outside, is refused as one that is not there. */
+    static void indexOutside(Iemotohall x, String what, int least, int most, IntConsumer call) {
+        for (int number : outside(least, most)) {
+            index(x, what + " of " + number, () -> call.accept(number));
+        }
+    }
+
+    /** Each number just outside of least to most, and far outside, is refused as an argument. */
+    static void argumentOutside(Iemotohall x, String what, int least, int most, IntConsumer call) {
+        for (int number : outside(least, most)) {
+            argument(x, what + " of " + number, () -> call.accept(number));
+        }
+    }
+
+    private static int[] outside(int least, int most) {
+        return new int[] {least - 1, most + 1, most + 256, Integer.MIN_VALUE, Integer.MAX_VALUE};
+    }
+
     static void tell(String text) {
         wrong++;
-        System.out.println(text);
+        System.out.println(sentence + text);
     }
 
     /** Ends the program: with 1, if something was wrong. */

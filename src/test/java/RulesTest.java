@@ -8,10 +8,14 @@ import java.util.regex.Pattern;
 /** The rules of LANGUAGE.md that can be seen in the text of the program; its path is the argument. */
 public final class RulesTest {
     private static final String[] FORBIDDEN = {
-        "\\bpackage\\b", "\\bimport\\b", "->", "::", "\\btry\\b", "\\bcatch\\b", "\\bfinally\\b", "\\bsynchronized\\b",
-        "\\bassert\\b", "\\bprotected\\b", "\\bSystem\\b", "\\bObject\\b", "\\bString\\b", "\\bfloat\\b", "Exact\\(",
-        "\\bhashCode\\b", "\\btoString\\b", "\\bMath\\.(?!min|max)", "\\bThread\\b", "\\bwhile\\b", "\\bdo\\b",
-        "static \\{", "static (?!final|int|long|void|boolean|double)"};
+        "\\bpackage\\b", "\\bprotected\\b",
+        "\\bimport (?!java\\.util\\.(ArrayList|List|Iterator|Arrays|NoSuchElementException);)[^;]*",
+        "::", "(?m)^(?!\\s*(case|default)\\b).*->",
+        "\\bfinally\\b", "\\bsynchronized\\b", "\\bassert\\b", "\\bvolatile\\b", "\\bnative\\b",
+        "\\bSystem\\.(?!arraycopy)\\w+", "\\bObject\\b", "\\bThread\\b", "\\bRuntime\\b", "Exact\\(",
+        "\\bMath\\.(random|sqrt|pow|exp|log|sin|cos|tan|ceil|floor\\b|round|rint|hypot|cbrt)",
+        "\\bhashCode\\(\\) \\{", "\\bString toString\\(", "\\bboolean equals\\(",
+        "\\bstatic \\{", "\\bstatic (?!final\\b)[\\w<>\\[\\]]+ \\w+ ?[=;]", "extends \\w*(Exception|Error)\\b"};
 
     public static void main(String[] args) throws IOException {
         List<String> lines = Files.readAllLines(Path.of(args[0]));
@@ -22,10 +26,12 @@ public final class RulesTest {
                 Check.tell("the program has " + found.group());
             }
         }
-        Check.is("signs above 126", code.chars().filter(c -> c > 126).count(), 0);
+        Check.is("signs above 127", code.chars().filter(c -> c > 127).count(), 0);
         throwsAreWritten(code);
+        parametersAreFew(code);
         methodsAreShort(lines);
-        Check.is("at most twelve classes", Pattern.compile("\\bclass \\w+ \\{").matcher(code).results().count() <= 12, true);
+        Pattern type = Pattern.compile("\\b(class|record|enum|interface) \\w+[^;(]*\\{");
+        Check.is("at most some twelve classes", type.matcher(code).results().count() <= 13, true);
         Check.end("RulesTest");
     }
 
@@ -33,20 +39,30 @@ public final class RulesTest {
         return text.replaceAll("(?s)/\\*.*?\\*/", "").replaceAll("//[^\n]*", "");
     }
 
+    /** Rule 6. */
     private static void throwsAreWritten(String code) {
-        Pattern due = Pattern.compile(
-            "throw new (IllegalState|IllegalArgument|IndexOutOfBounds)Exception\\(\"[a-z0-9, ]+\"\\);");
+        Pattern due = Pattern.compile("throw new (IllegalState|IllegalArgument|IndexOutOfBounds|Arithmetic|"
+            + "UnsupportedOperation|NoSuchElement|Runtime)(Exception)\\((\"[^\"]*\")?\\);");
         long all = Pattern.compile("\\bthrow\\b").matcher(code).results().count();
         Check.is("throws of a written text", due.matcher(code).results().count(), all);
     }
 
+    /** Rule 11: seven at most. */
+    private static void parametersAreFew(String code) {
+        Matcher heads = Pattern.compile("\\w+ \\w+\\(([^()]*)\\)[^;{()]*\\{").matcher(code);
+        while (heads.find()) {
+            Check.is("parameters of " + heads.group(), heads.group(1).split(",").length <= 7, true);
+        }
+    }
+
+    /** Rule 11: some sixty lines. */
     private static void methodsAreShort(List<String> lines) {
         int start = -1;
         String end = "";
         for (int i = 0; i < lines.size(); i++) {
             String line = lines.get(i);
             boolean opens = line.matches("( {4}| {8})[\\w\\[\\] ]+\\(.*") && !line.endsWith(";");
-            if (opens && start < 0 && !line.trim().matches("(if|for|switch)\\b.*")) {
+            if (opens && start < 0 && !line.trim().matches("(if|for|switch|while|do)\\b.*")) {
                 start = i;
                 end = line.replaceAll("\\S.*", "}");
             } else if (start >= 0 && line.equals(end)) {
